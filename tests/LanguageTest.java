@@ -1,0 +1,207 @@
+import java.lang.reflect.Constructor;
+import java.lang.reflect.Field;
+import java.lang.reflect.Method;
+import java.lang.reflect.Modifier;
+import java.nio.charset.StandardCharsets;
+import java.nio.file.Files;
+import java.nio.file.Path;
+import java.util.Set;
+import java.util.TreeSet;
+import java.util.regex.Matcher;
+import java.util.regex.Pattern;
+
+// The class's face, and the rules of ../shared/LANGUAGE.md that a program can see.
+public final class LanguageTest {
+    private static final String[] FACE = {
+        "int clear(int)", "int add(int,int,int)", "int corners(int)", "int corner(int,int,int)", "int points(int,int)",
+        "long times(int,int,int)", "int where(int,int,int)", "int point(int,int,int)", "int width(int,int,int)",
+        "int least(int,int)", "int map(int,int,int,int,int,int,int,int)", "int maps(int,int)", "int alike(int,int)",
+        "int heaps()", "int sum(int,int,int)", "int mixed(int,int)", "long parts(int)", "int part(int,int)",
+        "int normal(int,int,int)", "int reflexive(int)", "int dual(int,int)", "int between(int,int,int,int)",
+        "int ray(int,int,int,int,int,int)", "int cuts(int,int)", "int cut(int,int,int)", "int flips(int,int)",
+        "int height(int,int,int)", "int pieces(int,int)", "int piece(int,int,int)"
+    };
+    private static final String[] CONSTANTS = {"BAD", "NOT", "FULL", "SPENT", "NONE", "NO"};
+    private static final String[] FORBIDDEN = {
+        "throw", "throws", "try", "catch", "finally", "synchronized", "assert", "Exception", "Error", "native", "volatile",
+        "transient", "strictfp", "Object", "Random", "Thread", "Runtime", "Class", "currentTimeMillis", "nanoTime",
+        "identityHashCode", "hashCode", "toString", "var", "float", "double", "Collections", "stream"
+    };
+    private static int wrong = 0;
+
+    private static void fault(String what) {
+        wrong++;
+        System.out.println(what);
+    }
+
+    private static String told(Method m) {
+        StringBuilder s = new StringBuilder();
+        s.append(m.getReturnType().getName()).append(' ').append(m.getName()).append('(');
+        for (int i = 0; i < m.getParameterCount(); i++) {
+            s.append(i == 0 ? "" : ",").append(m.getParameterTypes()[i].getName());
+        }
+        return s.append(')').toString();
+    }
+
+    private static void testFace() {
+        Class<?> c = GridPolygons.class;
+        if (!Modifier.isPublic(c.getModifiers()) || !Modifier.isFinal(c.getModifiers())) {
+            fault("the class is not public and final");
+        }
+        Constructor<?>[] made = c.getDeclaredConstructors();
+        if (made.length != 1 || !Modifier.isPublic(made[0].getModifiers()) || made[0].getParameterCount() != 0) {
+            fault("the constructors are not as in the document");
+        }
+        Set<String> want = new TreeSet<>(Set.of(FACE));
+        Set<String> names = new TreeSet<>();
+        for (Method m : c.getDeclaredMethods()) {
+            if (Modifier.isPublic(m.getModifiers())) {
+                names.add(m.getName());
+                if (!want.remove(told(m)) || Modifier.isStatic(m.getModifiers())) {
+                    fault("not in the document: " + told(m));
+                }
+            }
+        }
+        for (String missing : want) {
+            fault("missing: " + missing);
+        }
+        for (Method m : c.getDeclaredMethods()) {
+            if (!Modifier.isPublic(m.getModifiers()) && (names.contains(m.getName()) || !Modifier.isPrivate(m.getModifiers()))) {
+                fault("a private method has a public name, or is not private: " + m.getName());
+            }
+        }
+        testFields(c, new TreeSet<>(Set.of(CONSTANTS)));
+        testInside(c, names);
+    }
+
+    private static void testFields(Class<?> c, Set<String> want) {
+        for (Field f : c.getDeclaredFields()) {
+            int m = f.getModifiers();
+            if (Modifier.isStatic(m) && !Modifier.isFinal(m)) {
+                fault("a static field is not final: " + f.getName());
+            }
+            if (Modifier.isPublic(m) && !(want.remove(f.getName()) && Modifier.isStatic(m) && f.getType() == int.class)) {
+                fault("not in the document: " + f.getName());
+            }
+            if (!Modifier.isPublic(m) && !Modifier.isPrivate(m)) {
+                fault("a field is not private: " + f.getName());
+            }
+        }
+        for (String missing : want) {
+            fault("missing: " + missing);
+        }
+    }
+
+    private static void testInside(Class<?> c, Set<String> names) {
+        Class<?>[] inside = c.getDeclaredClasses();
+        if (inside.length > 11) {
+            fault("more than 12 classes");
+        }
+        for (Class<?> d : inside) {
+            int fields = 0;
+            for (Field f : d.getDeclaredFields()) {
+                fields += Modifier.isStatic(f.getModifiers()) ? 0 : 1;
+            }
+            if (fields > 20) {
+                fault("more than 20 fields: " + d.getName());
+            }
+            if (!Modifier.isStatic(d.getModifiers()) || Modifier.isPublic(d.getModifiers())) {
+                fault("not static, or public: " + d.getName());
+            }
+            for (Method m : d.getDeclaredMethods()) {
+                if (names.contains(m.getName())) {
+                    fault("a method inside has a public name: " + m.getName());
+                }
+                if (m.getParameterCount() > 7) {
+                    fault("more than 7 parameters: " + m.getName());
+                }
+            }
+        }
+    }
+
+    /** The program without what stands in comments, its lines as they are. */
+    private static String bare(String text) {
+        StringBuilder s = new StringBuilder();
+        int i = 0;
+        while (i < text.length()) {
+            if (text.startsWith("/*", i)) {
+                int end = text.indexOf("*/", i) + 2;
+                text.substring(i, end).chars().filter(ch -> ch == '\n').forEach(ch -> s.append('\n'));
+                i = end;
+            } else if (text.startsWith("//", i)) {
+                i = text.indexOf('\n', i);
+            } else {
+                s.append(text.charAt(i));
+                i++;
+            }
+        }
+        return s.toString();
+    }
+
+    private static void testText(String text) {
+        for (int i = 0; i < text.length(); i++) {
+            if (text.charAt(i) > 126) {
+                fault("a sign beyond 126");
+            }
+        }
+        String bare = bare(text);
+        for (String word : FORBIDDEN) {
+            if (Pattern.compile("\\b" + word + "\\b").matcher(bare).find()) {
+                fault("a word that is not allowed: " + word);
+            }
+        }
+        String[] signs = {"->", "::", "\"", "static {", "while (true)", "for (;;)"};
+        for (String sign : signs) {
+            if (bare.contains(sign)) {
+                fault("a sign that is not used: " + sign);
+            }
+        }
+        dueOnly(bare, "import ([\\w.]+);", Set.of("java.util.Arrays"));
+        dueOnly(bare, "\\bMath\\.(\\w+)", Set.of("abs", "min", "max", "floorDiv", "floorMod"));
+        dueOnly(bare, "\\bSystem\\.(\\w+)", Set.of("arraycopy"));
+        dueOnly(bare, "\\bArrays\\.(\\w+)", Set.of("fill", "copyOf", "copyOfRange"));
+        dueOnly(bare, "\\bLong\\.(\\w+)", Set.of("bitCount", "compare"));
+        dueOnly(bare, "\\bInteger\\.(\\w+)", Set.of("compare"));
+        testMethods(bare);
+    }
+
+    private static void dueOnly(String bare, String what, Set<String> allowed) {
+        Matcher m = Pattern.compile(what).matcher(bare);
+        while (m.find()) {
+            if (!allowed.contains(m.group(1))) {
+                fault("not in the list of what is used: " + m.group());
+            }
+        }
+    }
+
+    /** A method begins with its head, in a line that ends with an opening brace, and ends where that is closed. */
+    private static void testMethods(String bare) {
+        Pattern head = Pattern.compile("^( +)(?=\\S)[\\w\\[\\]. ]* ?\\b(\\w+)\\((.*)\\) \\{$");
+        String[] lines = bare.split("\n", -1);
+        for (int i = 0; i < lines.length; i++) {
+            Matcher m = head.matcher(lines[i]);
+            if (!m.matches() || lines[i].trim().startsWith("else")) {
+                continue;
+            }
+            int end = i;
+            while (end < lines.length && !lines[end].equals(m.group(1) + "}")) {
+                end++;
+            }
+            if (end - i > 60) {
+                fault("longer than 60 lines: " + m.group(2));
+            }
+            if (m.group(3).split(",").length > 7 && !m.group(2).equals("map")) {
+                fault("more than 7 parameters: " + m.group(2));
+            }
+        }
+    }
+
+    public static void main(String[] args) throws Exception {
+        testFace();
+        testText(Files.readString(Path.of("src/main/java/GridPolygons.java"), StandardCharsets.UTF_8));
+        System.out.println(wrong == 0 ? "the face and the language are as told" : wrong + " faults");
+        if (wrong != 0) {
+            System.exit(1);
+        }
+    }
+}
