@@ -476,8 +476,9 @@ public final class OracleTest {
             if (next(3) == 0) {
                 g.sum(0, 0, 0);
             }
-            if (next(3) == 0) {
-                makeSome(g, 1, 2, 2);
+            int more = next(4);
+            for (int i = 0; i < more; i++) {
+                makeSome(g, 1, 2 + next(2), 2);
                 g.sum(0, 1, 0);
             }
             List<int[]> corners = cornersOf(g, 0);

@@ -369,6 +369,10 @@ public final class PromisesTest {
         due("12: above it", g.map(0, 2, 1, 0, 0, 1, 0, 40), FULL);
         due("12: left out of it", g.map(0, 2, 1, 0, 0, 1, -39, 0), FULL);
         due("12: below it", g.map(0, 2, -1, 0, 0, -1, 0, -40), FULL);
+        make(g, 3, 40, 0, 40, 1, 39, 0);
+        due("12: far out of it", g.map(3, 2, 40, 39, 1, 1, 0, 0), FULL);
+        due("12: far out of it, the other way", g.map(3, 2, 1, 1, -40, -39, 0, 0), FULL);
+        due("12: far above it", g.map(3, 2, 1, 0, 3, 1, -20, 0), FULL);
         due("12: NOT ahead of FULL", g.map(0, 2, 2, 0, 0, 1, 40, 40), NOT);
         dueText("12: nothing has changed", corners(g, 2), "37,40 40,39 40,40");
         due("12: EMPTY", g.map(5, 2, 1, 40, 0, 1, 40, 40), 0);
@@ -582,6 +586,8 @@ public final class PromisesTest {
         dueParts("a rectangle: the least of the first SIDE", with(0, 0, 3, 0, 0, 2, 3, 2), 2, 0, 1, 0, 1);
         dueParts("a hexagon", with(1, 0, 1, 1, 0, 1, -1, 0, -1, -1, 0, -1), 2, 0, 0, 1, 0, 0, 1);
         dueParts("one that takes several STEPS of a SIDE", with(0, 0, 4, 0, 0, 1), 6, 4, 1, 1);
+        dueParts("one with two of as many STEPS", with(0, 0, 6, -2, 5, 0, 3, 1, 2, 1), 3, 1, 0, 1, 1, 0);
+        dueParts("one that begins later", with(0, 4, 1, 2, 3, 8, 1, 7, 0, 5), 3, 0, 1, 0, 1, 1);
         GridPolygons g = with(0, 0, 5, 0, 0, 5);
         due("19: i = 3", g.part(0, 3), BAD);
         due("19: i = -2", g.part(0, -2), BAD);
@@ -716,8 +722,10 @@ public final class PromisesTest {
         due("24: i = 4", g.ray(2, 0, -4, 6, 4, 0), NO);
         due("24: i = -1", g.ray(2, 0, -4, 6, -1, 0), NO);
         due("24: greatest int", g.ray(2, 0, -4, 6, HIGH, 0), NO);
-        due("24: what = 3", g.ray(2, 0, -4, 6, 0, 3), NO);
-        due("24: what = -1", g.ray(2, 0, -4, 6, 0, -1), NO);
+        for (int i = 0; i < 4; i++) {
+            due("24: what = 3, i = " + i, g.ray(2, 0, -4, 6, i, 3), NO);
+            due("24: what = -1, i = " + i, g.ray(2, 0, -4, 6, i, -1), NO);
+        }
         due("24: clockwise", g.ray(0, 1, 1, 0, 0, 0), NO);
         due("24: x = 41", g.ray(41, 0, 0, 1, 0, 0), NO);
         due("24: y = -41", g.ray(1, -41, 0, 1, 0, 0), NO);

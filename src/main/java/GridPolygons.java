@@ -960,20 +960,20 @@ public final class GridPolygons {
             keep(tx, ty, NO, wanted);
         }
 
-        /** It lies in the triangle of (0, 0) and the first points on both rays, so on the grid. */
+        /** Any point that has the cross product 1 with the first one, moved along u back to where the ray v is near. */
         private void findSecond(int px, int py, int tx, int ty) {
-            secondX = tx;
-            secondY = ty;
-            int whole = px * ty - py * tx;
-            for (int i = -GRID; i <= GRID; i++) {
-                for (int j = -GRID; j <= GRID; j++) {
-                    int rest = i * ty - j * tx;
-                    if (px * j - py * i == 1 && rest >= 0 && rest < whole) {
-                        secondX = i;
-                        secondY = j;
-                    }
+            int wx = -py;
+            int wy = 0;
+            for (int i = 0; px != 0 && i < Math.abs(px); i++) {
+                if ((1 + py * i) % px == 0) {
+                    wx = i;
+                    wy = (1 + py * i) / px;
                 }
             }
+            int whole = px * ty - py * tx;
+            int back = whole == 0 ? 0 : Math.floorDiv(wx * ty - wy * tx, whole);
+            secondX = wx - back * px;
+            secondY = wy - back * py;
         }
 
         private void keep(int px, int py, int multiple, int wanted) {
@@ -1097,8 +1097,11 @@ public final class GridPolygons {
         }
 
         private int fewestFrom(int side, int x, int y) {
-            int at = cell(x, y);
-            return at < 0 || side < 0 || side > MOST_CORNERS ? MANY : fewest[side * CELLS + at];
+            return fewestAt(side, cell(x, y));
+        }
+
+        private int fewestAt(int side, int at) {
+            return at < 0 || at >= CELLS || side < 0 || side > MOST_CORNERS ? MANY : fewest[side * CELLS + at];
         }
 
         private void setFewest(int side, int x, int y, int steps) {
@@ -1127,8 +1130,12 @@ public final class GridPolygons {
 
         private int bestFrom(int side, int x, int y) {
             int best = MANY;
-            for (int k = 0; k <= steps && cell(x + k * dx, y + k * dy) >= 0; k++) {
-                best = Math.min(best, k + fewestFrom(side + 1, x + k * dx, y + k * dy));
+            for (int k = 0; k <= steps && k < best; k++) {
+                int at = cell(x + k * dx, y + k * dy);
+                if (at < 0) {
+                    return best;
+                }
+                best = Math.min(best, k + fewestAt(side + 1, at));
             }
             return best;
         }
@@ -1459,11 +1466,7 @@ public final class GridPolygons {
             count = 0;
             for (int i = 0; i < points.count; i++) {
                 for (int j = i + 1; j < points.count; j++) {
-                    for (int k = j + 1; k < points.count; k++) {
-                        if (!isTogether(bit(i) | bit(j) | bit(k))) {
-                            enter(planeOf(s.heights, i, j, k));
-                        }
-                    }
+                    enter(planeOf(s.heights, i, j, lowestLeft(s.heights, i, j)));
                 }
             }
         }
@@ -1511,38 +1514,61 @@ public final class GridPolygons {
             return piece >= 0 && piece < sets.length ? sets[piece] : 0;
         }
 
-        private boolean isTogether(long some) {
-            for (int i = 0; i < count; i++) {
-                if ((setOf(i) & some) == some) {
-                    return true;
+        /**
+         * Of the POINTS to the left of i, j one that no other one there is below the plane of, or -1 if there is none. A
+         * PIECE has such an edge i, j from its least POINT on, with i below j, and the whole of it to the left.
+         */
+        private int lowestLeft(int[] heights, int i, int j) {
+            int lowest = -1;
+            for (int k = 0; k < points.count; k++) {
+                if (points.turn(i, j, k) > 0 && (lowest < 0 || above(heights, i, j, lowest, k) < 0)) {
+                    lowest = k;
                 }
             }
-            return false;
+            return lowest;
         }
 
-        /** All POINTS in the plane of three, or 0 if these are in a row, or some POINT lies below their plane. */
+        /** How far POINT m is above the plane of i, j, k, which go anticlockwise, times their AREA. */
+        private int above(int[] heights, int i, int j, int k, int m) {
+            int most = Math.max(Math.max(i, j), Math.max(k, m));
+            int least = Math.min(Math.min(i, j), Math.min(k, m));
+            if (least < 0 || most >= heights.length) {
+                return 0;
+            }
+            return points.turn(i, j, k) * (heights[m] - heights[i])
+                    - points.turn(i, m, k) * (heights[j] - heights[i])
+                    - points.turn(i, j, m) * (heights[k] - heights[i]);
+        }
+
+        /** All POINTS in the plane of three, or 0 if there is no third one, or some POINT lies below their plane. */
         private long planeOf(int[] heights, int i, int j, int k) {
-            int whole = points.turn(i, j, k);
-            if (whole == 0 || k >= heights.length || i < 0 || j < 0) {
+            if (k < 0) {
                 return 0;
             }
             long set = 0;
-            for (int m = 0; m < points.count && m < heights.length; m++) {
-                int above = whole * (heights[m] - heights[i])
-                        - points.turn(i, m, k) * (heights[j] - heights[i])
-                        - points.turn(i, j, m) * (heights[k] - heights[i]);
-                if (above != 0 && above > 0 != whole > 0) {
+            for (int m = 0; m < points.count; m++) {
+                int here = above(heights, i, j, k, m);
+                if (here < 0) {
                     return 0;
                 }
-                if (above == 0) {
+                if (here == 0) {
                     set |= bit(m);
                 }
             }
             return set;
         }
 
+        private boolean isKnown(long set) {
+            for (int i = 0; i < count; i++) {
+                if (setOf(i) == set) {
+                    return true;
+                }
+            }
+            return false;
+        }
+
         private void enter(long set) {
-            if (set == 0 || count >= MOST_PIECES) {
+            if (set == 0 || count >= MOST_PIECES || isKnown(set)) {
                 return;
             }
             int at = count;
