@@ -560,13 +560,13 @@ public final class GridPolygons {
         int stamp;
     }
 
-    /** CORNERS, anticlockwise from the least one on. */
-    private static final class Ring {
+    /** Grid points in a row, as many as there is room for. */
+    private abstract static class Row {
         private final int[] xs;
         private final int[] ys;
         int count;
 
-        Ring(int most) {
+        Row(int most) {
             xs = new int[most];
             ys = new int[most];
         }
@@ -585,6 +585,13 @@ public final class GridPolygons {
                 ys[count] = y;
                 count++;
             }
+        }
+    }
+
+    /** CORNERS, anticlockwise from the least one on. */
+    private static final class Ring extends Row {
+        Ring(int most) {
+            super(most);
         }
 
         boolean isPolygon() {
@@ -1184,14 +1191,9 @@ public final class GridPolygons {
     }
 
     /** ALL POINTS of a SHAPE that has not many, by x, then y. */
-    private static final class Points {
-        private final int[] xs;
-        private final int[] ys;
-        int count;
-
+    private static final class Points extends Row {
         Points(int most) {
-            xs = new int[most];
-            ys = new int[most];
+            super(most);
         }
 
         void fill(Ring r) {
@@ -1199,21 +1201,9 @@ public final class GridPolygons {
             for (int x = r.leftmost(); x <= r.rightmost(); x++) {
                 int highest = r.highestAt(x);
                 for (int y = r.lowestAt(x); y <= highest; y++) {
-                    if (count < xs.length && count < ys.length) {
-                        xs[count] = x;
-                        ys[count] = y;
-                        count++;
-                    }
+                    append(x, y);
                 }
             }
-        }
-
-        int x(int i) {
-            return i >= 0 && i < xs.length ? xs[i] : 0;
-        }
-
-        int y(int i) {
-            return i >= 0 && i < ys.length ? ys[i] : 0;
         }
 
         /** AREA of the triangle i, j, k; below 0 if it is told clockwise. */
