@@ -324,7 +324,8 @@ public final class PromisesTest {
         dueLeast("one where (1, -1) is ahead of (1, 0)", with(0, 0, 2, 1, 1, 2, 2, 4, 3, 4), 3, 1, -1);
         dueLeast("a thin one", with(0, 0, 40, 39, 39, 38), 1, 1, -1);
         dueLeast("a thin one from corner to corner", with(-40, -40, 40, 39, -1, -1), 1, 1, -1);
-        dueLeast("a thin one beyond the WAYS that WIDTH takes", with(-40, -39, 40, 40, -37, -36), 1, 1, -1);
+        dueLeast("another thin one", with(-40, -39, 40, 40, -37, -36), 1, 1, -1);
+        dueLeast("a thin one along (39, -40)", with(-40, -40, 40, 38, -39, -39), 1, 39, -40);
         dueLeast("a thin one along (3, -2)", with(-20, -30, 20, 30, 1, 1), 1, 3, -2);
         dueLeast("the whole grid", with(-40, -40, 40, -40, 40, 40, -40, 40), 80, 0, 1);
         dueLeast("one with a side less often divided", with(0, 0, 7, 5, 3, 2), 1, 2, -3);
