@@ -11,7 +11,7 @@ import java.util.regex.Matcher;
 import java.util.regex.Pattern;
 
 // The class's face, and the rules of ../shared/LANGUAGE.md that a program can see.
-public final class LanguageTest {
+public final class LanguageTest extends Checks {
     private static final String[] FACE = {
         "int clear(int)", "int add(int,int,int)", "int corners(int)", "int corner(int,int,int)", "int points(int,int)",
         "long times(int,int,int)", "int where(int,int,int)", "int point(int,int,int)", "int width(int,int,int)",
@@ -27,12 +27,6 @@ public final class LanguageTest {
         "transient", "strictfp", "Object", "Random", "Thread", "Runtime", "Class", "currentTimeMillis", "nanoTime",
         "identityHashCode", "hashCode", "toString", "var", "float", "double", "Collections", "stream"
     };
-    private static int wrong = 0;
-
-    private static void fault(String what) {
-        wrong++;
-        System.out.println(what);
-    }
 
     private static String told(Method m) {
         StringBuilder s = new StringBuilder();
@@ -199,9 +193,6 @@ public final class LanguageTest {
     public static void main(String[] args) throws Exception {
         testFace();
         testText(Files.readString(Path.of("src/main/java/GridPolygons.java"), StandardCharsets.UTF_8));
-        System.out.println(wrong == 0 ? "the face and the language are as told" : wrong + " faults");
-        if (wrong != 0) {
-            System.exit(1);
-        }
+        end("the face and the language are as told");
     }
 }

@@ -6,19 +6,8 @@ import java.util.Map;
 import java.util.TreeSet;
 
 // Many small shapes; each call is compared with an answer that is found in another, plainer way.
-public final class OracleTest {
-    private static final int NOT = -2, FULL = -3, SPENT = -5, NO = -1000000;
-    private static int wrong = 0;
+public final class OracleTest extends Checks {
     private static long seed = 20261118;
-
-    private static void due(String call, long got, long want) {
-        if (got != want) {
-            wrong++;
-            if (wrong < 100) {
-                System.out.println(call + " answered " + got + ", due is " + want);
-            }
-        }
-    }
 
     /** 0 .. below - 1, the same in each run. */
     private static int next(int below) {
@@ -941,9 +930,6 @@ public final class OracleTest {
         testWideRays();
         testCuts();
         testPieces();
-        System.out.println(wrong == 0 ? "all answers are as found otherwise" : wrong + " answers are not as found otherwise");
-        if (wrong != 0) {
-            System.exit(1);
-        }
+        end("all answers are as found otherwise");
     }
 }

@@ -1,59 +1,5 @@
 // One method for each promise of the document: ordinary inputs, the edges that it names, wrong inputs.
-public final class PromisesTest {
-    private static final int BAD = -1, NOT = -2, FULL = -3, SPENT = -5, NO = -1000000;
-    private static final int LOW = Integer.MIN_VALUE, HIGH = Integer.MAX_VALUE;
-    private static int wrong = 0;
-
-    private static void due(String call, long got, long want) {
-        if (got != want) {
-            wrong++;
-            System.out.println(call + " answered " + got + ", due is " + want);
-        }
-    }
-
-    private static void dueText(String call, String got, String want) {
-        if (!got.equals(want)) {
-            wrong++;
-            System.out.println(call + " answered " + got + ", due is " + want);
-        }
-    }
-
-    private static void make(GridPolygons g, int shape, int... xy) {
-        g.clear(shape);
-        for (int i = 0; i + 1 < xy.length; i += 2) {
-            g.add(shape, xy[i], xy[i + 1]);
-        }
-    }
-
-    private static GridPolygons with(int... xy) {
-        GridPolygons g = new GridPolygons();
-        make(g, 0, xy);
-        return g;
-    }
-
-    private static String corners(GridPolygons g, int shape) {
-        StringBuilder s = new StringBuilder();
-        for (int i = 0; i < g.corners(shape); i++) {
-            s.append(i == 0 ? "" : " ").append(g.corner(shape, i, 0)).append(',').append(g.corner(shape, i, 1));
-        }
-        return s.toString();
-    }
-
-    /** A polygon of 24 corners from a point on: 17 times the scale wide and tall, 8 times the scale of it below. */
-    private static void make24(GridPolygons g, int shape, int fromX, int fromY, int scale) {
-        int[] sides = {1, -3, 1, -2, 1, -1, 2, -1, 3, -1, 1, 0, 3, 1, 2, 1, 1, 1, 1, 2, 1, 3, 0, 1};
-        g.clear(shape);
-        int x = fromX;
-        int y = fromY;
-        for (int turn = 1; turn >= -1; turn -= 2) {
-            for (int i = 0; i < sides.length; i += 2) {
-                g.add(shape, x, y);
-                x += turn * scale * sides[i];
-                y += turn * scale * sides[i + 1];
-            }
-        }
-    }
-
+public final class PromisesTest extends Checks {
     private static void theConstants() {
         due("BAD", GridPolygons.BAD, -1);
         due("NOT", GridPolygons.NOT, -2);
@@ -968,9 +914,6 @@ public final class PromisesTest {
         p28Height();
         p29Pieces();
         p30Piece();
-        System.out.println(wrong == 0 ? "all promises are kept" : wrong + " answers are not as due");
-        if (wrong != 0) {
-            System.exit(1);
-        }
+        end("all promises are kept");
     }
 }

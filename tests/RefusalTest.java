@@ -1,12 +1,10 @@
 // Calls with any numbers, right ones and wrong ones: none throws, and a refused one changes nothing.
-public final class RefusalTest {
-    private static final int NO = -1000000;
+public final class RefusalTest extends Checks {
     private static final int[] EDGES = {
         Integer.MIN_VALUE, Integer.MIN_VALUE + 1, -1000001, -1001, -1000, -101, -100, -81, -42, -41, -40, -39, -3, -2, -1,
         0, 1, 2, 3, 7, 8, 9, 11, 12, 13, 23, 24, 25, 39, 40, 41, 42, 62, 63, 64, 80, 81, 100, 101, 500, 1000, 1001, 1499,
         1500, 1501, 4095, 4096, 6560, 6561, 65536, Integer.MAX_VALUE - 1, Integer.MAX_VALUE
     };
-    private static int wrong = 0;
     private static long seed = 7;
 
     private static int next(int below) {
@@ -61,25 +59,6 @@ public final class RefusalTest {
         }
     }
 
-    /** All corners and heights; the heights are told by setting them, and are set back. */
-    private static String told(GridPolygons g) {
-        StringBuilder s = new StringBuilder();
-        for (int shape = 0; shape < 8; shape++) {
-            for (int i = 0; i < g.corners(shape); i++) {
-                s.append(g.corner(shape, i, 0)).append(',').append(g.corner(shape, i, 1)).append(' ');
-            }
-            for (int i = 0; i < 40; i++) {
-                int was = g.height(shape, i, 0);
-                if (was != NO) {
-                    g.height(shape, i, was);
-                    s.append(was).append(' ');
-                }
-            }
-            s.append('/');
-        }
-        return s.toString();
-    }
-
     /** Whether a call with this answer may have changed something: of clear, add, map, sum, dual, height, if not refused. */
     private static boolean mayChange(int which, long answer) {
         if (which == 26) {
@@ -100,15 +79,13 @@ public final class RefusalTest {
                 String after = told(g);
                 refused += mayChange(which, 0) && answer < 0 ? 1 : 0;
                 if (!mayChange(which, answer) && !after.equals(before)) {
-                    wrong++;
-                    System.out.println("call " + which + " answered " + answer + " and changed " + before + " to " + after);
+                    fault("call " + which + " answered " + answer + " and changed " + before + " to " + after);
                 }
                 before = after;
             }
         }
         if (refused < 500) {
-            wrong++;
-            System.out.println("too few calls were refused: " + refused);
+            fault("too few calls were refused: " + refused);
         }
     }
 
@@ -141,10 +118,7 @@ public final class RefusalTest {
                 which = next(3) == 0 ? 1 : next(30);
                 long got = call(busy, which);
                 seed = after;
-                if (got != want) {
-                    wrong++;
-                    System.out.println("call " + which + " answered " + got + " after others, else " + want);
-                }
+                due("call " + which + " after others", got, want);
             }
         }
     }
@@ -153,9 +127,6 @@ public final class RefusalTest {
         testAnyNumbers();
         testState();
         testReaders();
-        System.out.println(wrong == 0 ? "no call threw, no refused one changed anything" : wrong + " calls were wrong");
-        if (wrong != 0) {
-            System.exit(1);
-        }
+        end("no call threw, no refused one changed anything");
     }
 }
