@@ -1,3 +1,4 @@
+import java.lang.reflect.Array;
 import java.lang.reflect.Constructor;
 import java.lang.reflect.Field;
 import java.lang.reflect.Method;
@@ -5,6 +6,10 @@ import java.lang.reflect.Modifier;
 import java.nio.charset.StandardCharsets;
 import java.nio.file.Files;
 import java.nio.file.Path;
+import java.util.ArrayList;
+import java.util.IdentityHashMap;
+import java.util.List;
+import java.util.Map;
 import java.util.Set;
 import java.util.TreeSet;
 import java.util.regex.Matcher;
@@ -113,6 +118,55 @@ public final class LanguageTest extends Checks {
         }
     }
 
+    /** One room is for all calls of a run: what an object holds is far less, and no more after many calls. */
+    private static void testRoom() throws IllegalAccessException {
+        GridPolygons g = with(0, 1, 1, 0, 3, 0, 3, 1, 2, 3, 1, 3, 0, 2);
+        long[] before = room(g);
+        make24(g, 1, -30, 0, 3);
+        for (int i = 0; i < 120; i++) {
+            g.add(0, i % 4, 3);
+            g.cuts(0, 0);
+            g.part(1, -1);
+            g.pieces(0, 0);
+        }
+        long[] after = room(g);
+        due("objects and arrays after many calls", after[0], before[0]);
+        due("fields and elements after many calls", after[1], before[1]);
+        if (after[0] > 600 || after[1] > 365000) {
+            fault("an object holds too much: " + after[0] + " objects and arrays, " + after[1] + " fields and elements");
+        }
+    }
+
+    /** How many objects and arrays, how many fields and elements of them. */
+    private static long[] room(Object whole) throws IllegalAccessException {
+        Map<Object, Object> seen = new IdentityHashMap<>();
+        List<Object> found = new ArrayList<>();
+        found.add(whole);
+        long fields = 0;
+        for (int i = 0; i < found.size(); i++) {
+            Object o = found.get(i);
+            if (o == null || seen.put(o, o) != null) {
+                continue;
+            }
+            if (o.getClass().isArray()) {
+                fields += Array.getLength(o);
+                for (int k = 0; o instanceof Object[] && k < Array.getLength(o); k++) {
+                    found.add(Array.get(o, k));
+                }
+            }
+            for (Class<?> c = o.getClass(); c != null && c.getName().startsWith("GridPolygons"); c = c.getSuperclass()) {
+                for (Field f : c.getDeclaredFields()) {
+                    if (!Modifier.isStatic(f.getModifiers())) {
+                        fields++;
+                        f.setAccessible(true);
+                        found.add(f.getType().isPrimitive() ? null : f.get(o));
+                    }
+                }
+            }
+        }
+        return new long[] {seen.size(), fields};
+    }
+
     /** The program without what stands in comments, its lines as they are. */
     private static String bare(String text) {
         StringBuilder s = new StringBuilder();
@@ -184,6 +238,11 @@ public final class LanguageTest extends Checks {
             if (end - i > 60) {
                 fault("longer than 60 lines: " + m.group(2));
             }
+            for (int k = i; k < end; k++) {
+                if (Character.isLowerCase(m.group(2).charAt(0)) && lines[k].matches(".*\\bnew\\b.*")) {
+                    fault("a call makes an object: " + m.group(2));
+                }
+            }
             if (m.group(3).split(",").length > 7 && !m.group(2).equals("map")) {
                 fault("more than 7 parameters: " + m.group(2));
             }
@@ -192,6 +251,7 @@ public final class LanguageTest extends Checks {
 
     public static void main(String[] args) throws Exception {
         testFace();
+        testRoom();
         testText(Files.readString(Path.of("src/main/java/GridPolygons.java"), StandardCharsets.UTF_8));
         end("the face and the language are as told");
     }
