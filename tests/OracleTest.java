@@ -428,6 +428,59 @@ public final class OracleTest extends Checks {
         dueCorners("map", g, to, want);
     }
 
+    // ---- what a MAP leaves as it is, on shapes that it makes long and thin
+
+    private static void testStretched() {
+        int stretched = 0;
+        for (int run = 0; run < 3000 && stretched < 300; run++) {
+            GridPolygons g = new GridPolygons();
+            makeSome(g, 0, 3 + next(4), 1 + next(3));
+            int k = next(-12, 12);
+            int l = next(-3, 3);
+            int[] m = {1, k, l, k * l + 1, next(-20, 20), next(-20, 20)};
+            if (Math.abs(k * l + 1) > 40 || g.corners(0) < 3 || g.map(0, 1, m[0], m[1], m[2], m[3], m[4], m[5]) < 0) {
+                continue;
+            }
+            stretched++;
+            for (int what = 0; what < 4; what++) {
+                due("stretched, points", g.points(1, what), g.points(0, what));
+                // FARTHEST (1) depends on which CUT is FIRST CUT, and so on the place of each POINT.
+                due("stretched, cuts", what == 1 ? 0 : g.cuts(1, what), what == 1 ? 0 : g.cuts(0, what));
+            }
+            due("stretched, times", g.times(1, 1000, 1), g.times(0, 1000, 1));
+            due("stretched, least", g.least(1, 0), g.least(0, 0));
+            due("stretched, maps", g.maps(0, 1), g.maps(0, 0));
+            due("stretched, parts", g.parts(1), g.parts(0));
+            due("stretched, part", g.part(1, -1), g.part(0, -1));
+            due("stretched, mixed", g.mixed(1, 1), g.mixed(0, 0));
+            liftBoth(g, m);
+        }
+        due("enough were stretched", stretched == 300 ? 1 : 0, 1);
+    }
+
+    /** Gives each POINT and what the MAP makes of it the same HEIGHT, great ones too. */
+    private static void liftBoth(GridPolygons g, int[] m) {
+        int n = g.points(0, 3);
+        if (n > 40) {
+            return;
+        }
+        for (int i = 0; i < n; i++) {
+            int x = g.point(0, i, 0);
+            int y = g.point(0, i, 1);
+            int v = next(3) == 0 ? 2000 * next(2) - 1000 : next(-1000, 1000);
+            g.height(0, i, v);
+            for (int k = 0; k < n; k++) {
+                boolean same = g.point(1, k, 0) == m[0] * x + m[1] * y + m[4] && g.point(1, k, 1) == m[2] * x + m[3] * y + m[5];
+                if (same) {
+                    g.height(1, k, v);
+                }
+            }
+        }
+        for (int what = 0; what < 3; what++) {
+            due("stretched, pieces", g.pieces(1, what), g.pieces(0, what));
+        }
+    }
+
     private static void testSums() {
         for (int run = 0; run < 300; run++) {
             GridPolygons g = new GridPolygons();
@@ -923,6 +976,7 @@ public final class OracleTest extends Checks {
         testCounts();
         testWidths();
         testMaps();
+        testStretched();
         testSums();
         testParts();
         testDuals();

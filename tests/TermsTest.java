@@ -269,6 +269,9 @@ public final class TermsTest extends Checks {
         is("its a", g.least(0, 1), 39);
         is("its b", g.least(0, 2), -40);
         is("the greatest", with(GRID).least(0, 0), 80);
+        isLeast("(1, 1) only", with(0, 0, 1, 0, 5, -5, 6, -5), 1, 1, 1);
+        isLeast("(0, 1) only", with(0, 0, 5, 0, 0, 1, 5, 1), 1, 0, 1);
+        isLeast("(1, 0) only", with(0, 0, 0, 5, 1, 0, 1, 5), 1, 1, 0);
     }
 
     private static void isLeast(String of, GridPolygons g, int width, int a, int b) {
@@ -321,7 +324,7 @@ public final class TermsTest extends Checks {
         make(g, 1, 0, 0, 2, 1, 1, 2);
         make(g, 2, 0, 0, 3, 0, 0, 1);
         make(g, 3, 0, 0, 1, 0, 0, 1, 1, 1);
-        make(g, 4, 0, 0, 3, 1, 2, 3);
+        make(g, 4, 0, 0, 2, 0, 3, 1, 1, 3);
         g.map(4, 5, 0, 1, 1, 0, -7, 9);
         g.map(4, 6, 2, 1, 1, 1, 30, 30);
         int[] heap = {0, 1, 2, 3, 4, 4, 4};
@@ -499,7 +502,7 @@ public final class TermsTest extends Checks {
     private static void farIsOneForAll() {
         says("REFLEXIVE: ROUND, and FAR is 1 for all SIDES.");
         is("1 for all", with(1, 0, 0, 1, -1, -1).reflexive(0), 1);
-        is("2 for the first SIDE", with(-1, 2, -1, -2, 1, -2, 1, 2, 0, 3).reflexive(0), 0);
+        is("2 for the first SIDE", with(-1, -2, 1, -2, 1, 1, -1, 1).reflexive(0), 0);
         is("2 for the last SIDE", with(-2, -1, 1, -1, 1, 1, -2, 1).reflexive(0), 0);
         is("2 for all", with(-2, -2, 2, -2, -2, 2, 2, 2).reflexive(0), 0);
         is("not ROUND", with(1, 0, 0, 1, 0, 0).reflexive(0), 0);
@@ -690,6 +693,21 @@ public final class TermsTest extends Checks {
         is("FARTHEST", g.cuts(0, 1), 25);
         is("the last one", g.cut(0, 251, -1), 25);
         is("the second one", g.cut(0, 1, -1), 1);
+    }
+
+    private static void flipsByTheSegmentThatGivesWay() {
+        says("then of each in order all FLIPS by the number of the segment that gives way.");
+        GridPolygons g = with(0, 0, 2, 0, 0, 1, 2, 1);
+        String[] cuts = {
+            "1 2 3 5 19 36 37 53 69", "1 2 3 19 35 36 37 53 69", "1 2 18 19 35 36 37 53 69",
+            "1 2 3 19 35 36 52 53 69", "1 2 18 19 35 36 52 53 69", "1 2 18 19 20 36 52 53 69"
+        };
+        int[] flips = {1, 3, 2, 2, 3, 1};
+        for (int i = 0; i < 6; i++) {
+            isText("CUT " + i, cut(g, i), cuts[i]);
+            is("FLIPS of CUT " + i, g.flips(0, i), flips[i]);
+        }
+        is("no seventh one", g.flips(0, 6), BAD);
     }
 
     private static void segmentsRising() {
@@ -1029,6 +1047,7 @@ public final class TermsTest extends Checks {
         spentAbove1500();
         howFarOfTheFirst();
         segmentsRising();
+        flipsByTheSegmentThatGivesWay();
     }
 
     private static void testHeights() {
